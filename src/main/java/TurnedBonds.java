@@ -1517,7 +1517,7 @@ public final class TurnedBonds {
         }
 
         private boolean takeCoupon() {
-            int number = takeDigits();
+            int number = takeDigits(look());
             if (number < 0) {
                 return false;
             }
@@ -1614,15 +1614,16 @@ public final class TurnedBonds {
 
         /** N: 1 to 7 digits; NONE with a FAULT. */
         private int takeNumber(int low, int high) {
-            int number = takeDigits();
+            int number = takeDigits(look());
             if (number < 0 || within(number, low, high)) {
                 return number;
             }
             return wrong(NO_SUCH_NUMBER, begin);
         }
 
-        private int takeDigits() {
-            if (!isDigit(look())) {
+        /** All digits from here on, where look() has just seen a sign; NONE with a FAULT. */
+        private int takeDigits(int sign) {
+            if (!isDigit(sign)) {
                 return wrong(CANT_STAND, place);
             }
             begin = place;

@@ -22,10 +22,13 @@ public final class ModelRunTest {
 
     private final Random random;
     private final Check check;
+    /** Whether this run keeps to the least and the most of each number, where sums grow highest. */
+    private final boolean atEdges;
 
     private ModelRunTest(long seed, Check check) {
         random = new Random(seed);
         this.check = check;
+        atEdges = random.nextInt(4) == 0;
     }
 
     private int from(int low, int high) {
@@ -47,7 +50,26 @@ public final class ModelRunTest {
         if (kind.equals("aim")) {
             return random.nextInt(8) == 0 ? random.nextLong() : (long) from(0, pick(2000, 12000, 20000, 200000));
         }
-        return random.nextInt(25) == 0 ? wild() : number(kind);
+        if (random.nextInt(25) == 0) {
+            return wild();
+        }
+        return atEdges ? edge(kind) : number(kind);
+    }
+
+    private int edge(String kind) {
+        switch (kind) {
+            case "days": return pick(1, 6, 6, 6);
+            case "start": return pick(1, 1000, 1000);
+            case "factor": return pick(1, 19, 20, 20);
+            case "chance": return pick(1, 19, 20, 20);
+            case "rate": return pick(0, 200);
+            case "face": return pick(1, 1000000);
+            case "ratio": return pick(0, 1000, 1000);
+            case "coupon": return pick(0, 1000);
+            case "pence": return pick(-1, 0, 1000000);
+            case "hundred": return pick(-100, 1, 100);
+            default: return number(kind);
+        }
     }
 
     private int number(String kind) {
