@@ -1284,7 +1284,8 @@ public final class TurnedBonds {
                     gives = onLastDay ? bond.face() : holdAt(row);
                     break;
                 case 1:
-                    gives = bond.putOn(day);
+                    // a DAY that a PUT or CALL was told for may be T by now, where neither can be done
+                    gives = onLastDay ? ABSENT : bond.putOn(day);
                     break;
                 case 2:
                     gives = turnedAt(row);

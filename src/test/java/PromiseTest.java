@@ -809,12 +809,18 @@ public final class PromiseTest {
         due("37: CALL out of WINDOW", x.instead(0, 3), 9000);
         onPath(x, "uuu");
         due("37: FACE on T", x.instead(0, 0), 10000);
-        due("37: a PUT of T", x.instead(0, 1), 77);
+        due("37: no PUT on T", x.instead(0, 1), -2);
         due("37: no CALL on T", x.instead(0, 3), -2);
         x.window(0, 3, 3);
         due("37: TURNED on T", x.instead(0, 2), 17280);
         x.put(0, 3, 0);
-        due("37: a PUT at 0", x.instead(0, 1), 0);
+        due("37: no PUT at 0 on T", x.instead(0, 1), -2);
+        x.tree(4, 100);
+        onPath(x, "uuu");
+        due("37: a PUT at 0 ahead of T", x.instead(0, 1), 0);
+        x.tree(1, 100);
+        onPath(x, "d");
+        due("37: T is DAY 1 now", x.instead(0, 1), -2);
         due("37: 4", x.instead(0, 4), -1);
         due("37: -1", x.instead(0, -1), -1);
         due("37: no BOND", x.instead(3, 0), -1);
@@ -905,6 +911,20 @@ public final class PromiseTest {
         x.open(0);
         due("41: PUT at 0", x.does(1), 0);
         due("41: over", x.byHand(0), 0);
+        x.put(0, 3, 20000);
+        x.call(0, 3, 5);
+        x.open(0);
+        x.go(true);
+        x.go(true);
+        x.go(true);
+        long regret = x.byHand(3);
+        due("41: not PUT on T", x.does(1), -3);
+        due("41: not CALLED on T where there is one", x.does(3), -3);
+        due("41: it goes on", x.byHand(0), 1);
+        due("41: nothing more was paid", x.byHand(2), 34);
+        due("41: no more REGRET", x.byHand(3), regret);
+        due("41: turned on T", x.does(2), 17314);
+        due("41: over ahead of what can't be", x.does(1), -2);
     }
 
     private static void byHand42() {

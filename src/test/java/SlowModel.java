@@ -303,7 +303,7 @@ final class SlowModel {
                 case 0:
                     return coupon(s) + (last(s) ? bond.face : hold(s));
                 case 1:
-                    return putOf(s) == -2 ? -2 : coupon(s) + putOf(s);
+                    return last(s) || putOf(s) == -2 ? -2 : coupon(s) + putOf(s);
                 case 2:
                     return inWindow(s) ? coupon(s) + turned(s) : -2;
                 default:
