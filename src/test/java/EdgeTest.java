@@ -827,6 +827,26 @@ public final class EdgeTest {
         due("33: highest aim", y.fairRatio(0, Long.MAX_VALUE), -2);
     }
 
+    /** Every COUPON and RATIO is the least one for some aim. */
+    private static void eachFairOne32() {
+        for (int begin = 0; begin <= 1000; begin += 250) {
+            TurnedBonds x = new TurnedBonds();
+            x.tree(1, 100);
+            x.bond(0, 1, 0);
+            x.window(0, 0, 0);
+            for (int fair = begin; fair < begin + 250 && fair <= 1000; fair++) {
+                due("32: " + fair, x.fairCoupon(0, fair + 1), fair);
+                due("33: " + fair, x.fairRatio(0, Math.max(1, 100 * fair)), fair);
+            }
+        }
+        TurnedBonds y = new TurnedBonds();
+        y.tree(1, 1);
+        y.bond(0, MILLION, 0);
+        for (int fair = 0; fair <= 200; fair++) {
+            due("36: " + fair, y.fairRate(0, 1000000000 / (1000 + fair)), fair);
+        }
+    }
+
     private static void fairRateEdges36() {
         TurnedBonds x = new TurnedBonds();
         x.tree(1, 1);
@@ -854,6 +874,13 @@ public final class EdgeTest {
         due("35: T 1 has DAY 0 alone", x.bestPut(0, MILLION, 0), 0);
         due("35: the most", x.bestPut(0, MILLION, 1), MILLION);
         due("35: at 0 no use", x.bestPut(0, 0, 1), 15000);
+        x.call(0, 0, 0);
+        due("34: in place of the only one", x.bestCall(0, MILLION, 1), 15000);
+        due("34: T itself is none of the DAYS", x.bestCall(0, MILLION, 0), 0);
+        x.call(0, 0, -1);
+        x.put(0, 0, 20000);
+        due("35: in place of the only one", x.bestPut(0, 0, 1), 15000);
+        due("35: T itself is none of the DAYS", x.bestPut(0, 0, 0), 0);
         TurnedBonds y = doubling(6);
         tell(y, 0, "w6-6f1s1/1/320000");
         due("34: free on DAY 5 alone", y.bestCall(0, 0, 0), 5);
@@ -1109,6 +1136,22 @@ public final class EdgeTest {
         }
     }
 
+    /** Up is the lower one here, so that more ups may have fewer marks. */
+    private static void tableInOrder47() {
+        TurnedBonds x = doubling(3);
+        x.move(true, 1, 2);
+        x.move(false, 2, 1);
+        tell(x, 0, "w3-3s0/1/20000");
+        // ddd; udd, dud, ddu; uud, udu, duu; uuu
+        long[][] wants = {{0, 7, 0}, {1, 1, 0}, {1, 5, 0}, {1, 7, 1}, {2, 0, 0}, {2, 0, 1}, {2, 4, 1}, {3, 0, 1}};
+        due("47: eight", x.states(0, 3), 8);
+        for (int i = 0; i < 8; i++) {
+            for (int what = 0; what < 3; what++) {
+                due("47: STATE " + i + ", " + what, x.table(0, 3, i, what), wants[i][what]);
+            }
+        }
+    }
+
     private static void hedgedEdges48() {
         TurnedBonds x = doubling(1);
         due("48: of an empty PATH it goes on", x.hedged(0), -2);
@@ -1215,6 +1258,11 @@ public final class EdgeTest {
         }
         x.tree(1, 100);
         due("50: of T 1", x.alike(0, 1, 1), 1);
+        TurnedBonds y = dearest();
+        y.bond(0, 10000, 0);
+        due("50: by RATIO", y.alike(0, 1, 0), 0);
+        y.tree(1, 1);
+        due("50: behind T nothing counts", y.alike(0, 1, 0), 1);
     }
 
     private static void bestEdges51() {
@@ -1228,6 +1276,12 @@ public final class EdgeTest {
             }
             due("51: most", x.best(true), f[3]);
             due("51: least", x.best(false), f[4]);
+        }
+        for (int k = 0; k < 3; k++) {
+            TurnedBonds y = new TurnedBonds();
+            y.call(k, 0, 0);
+            due("51: a CALL makes it the least", y.best(false), k);
+            due("51: and not the greatest", y.best(true), k == 0 ? 1 : 0);
         }
     }
 
@@ -1344,6 +1398,7 @@ public final class EdgeTest {
         statesEdges29();
         heldEdges31();
         fairEdges32();
+        eachFairOne32();
         fairRateEdges36();
         bestDays34();
         insteadEdges37();
@@ -1356,6 +1411,7 @@ public final class EdgeTest {
         extremeEdges45();
         daysEdges46();
         tableEdges47();
+        tableInOrder47();
         hedgedEdges48();
         sharesAtMost48();
         letterEdges49();

@@ -87,7 +87,7 @@ public final class RefusalTest {
         CHECK.due(what, got, want);
     }
 
-    /** A state in which as much as can be is not as at first: two states kept, BY HAND goes on, the tape has 40 bytes. */
+    /** A state in which much is not as at first: two states are kept, BY HAND goes on, the tape has 40 bytes. */
     private static void prepare(TurnedBonds x) {
         prepareNoTape(x);
         Check.feed(x, "f77n88c5k0:9p3:-w1-z2                   ");
@@ -236,7 +236,8 @@ public final class RefusalTest {
         for (int number : wrong) {
             Object[] arguments = right.clone();
             arguments[i] = number;
-            changesNothing(name + Arrays.toString(arguments), RefusalTest::prepare, x -> call(x, name, arguments), refused);
+            changesNothing(name + Arrays.toString(arguments), RefusalTest::prepare, x -> call(x, name, arguments),
+                    refused);
         }
     }
 
